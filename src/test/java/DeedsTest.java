@@ -7,7 +7,9 @@ public final class DeedsTest {
         stays();
         loses();
         picks();
+        picksTheOnlyOne();
         eachIsUndone();
+        ofEachTraveller();
         tenAreKnown();
         refusedOnesAreNotKnown();
         CHECK.end();
@@ -95,6 +97,37 @@ public final class DeedsTest {
         x.goes(1, 4);
         CHECK.due(13, "picks(1) in the middle", x.picks(1), 2);
         CHECK.due(13, "thing(1)", x.thing(1), 2);
+    }
+
+    private static void picksTheOnlyOne() {
+        LadderSurvey x = Check.told("s5 5 3;t5;");
+        x.loses(0);
+        CHECK.due(13, "picks(0), the only one", x.picks(0), 0);
+        CHECK.due(13, "thing(0)", x.thing(0), LadderSurvey.NONE);
+        CHECK.due(14, "undo()", x.undo(), 1);
+        CHECK.due(14, "thing(0) behind undo()", x.thing(0), 0);
+    }
+
+    /** More than ten deeds of two, and deeds behind back(), each undone to the right one. */
+    private static void ofEachTraveller() {
+        LadderSurvey x = Check.told("s20 5 3;t99;t99;");
+        for (int mark = 1; mark <= 12; mark++) {
+            x.goes(mark % 3 == 0 ? 1 : 0, mark);
+        }
+        x.keep(0);
+        int[][] places = {{11, 9}, {10, 9}, {8, 9}, {8, 6}, {7, 6}, {5, 6}, {5, 3}, {4, 3}, {2, 3}, {2, 0}};
+        for (int i = 0; i < places.length; i++) {
+            x.undo();
+            CHECK.due(14, "traveller(0, 1), " + i, x.traveller(0, 1), places[i][0]);
+            CHECK.due(14, "traveller(1, 1), " + i, x.traveller(1, 1), places[i][1]);
+        }
+        x.goes(0, 5);
+        x.goes(0, 6);
+        CHECK.due(27, "back(0)", x.back(0), 0);
+        x.goes(1, 3);
+        CHECK.due(14, "undo() behind back()", x.undo(), 0);
+        CHECK.due(14, "traveller(0, 1) behind back()", x.traveller(0, 1), 11);
+        CHECK.due(14, "traveller(1, 1) behind back()", x.traveller(1, 1), 12);
     }
 
     private static void eachIsUndone() {

@@ -1,3 +1,7 @@
+import java.lang.reflect.Method;
+import java.lang.reflect.Modifier;
+import java.util.Arrays;
+
 /** All promises: runs of calls drawn by a fixed rule, each answer compared with Model's. */
 public final class ModelTest {
     private static final int RUNS = 1500;
@@ -13,11 +17,14 @@ public final class ModelTest {
     private static final int[] ODD_NUMBERS = {Integer.MIN_VALUE, -1000000, -10, -3, -2, -1, 5, 7, 10, 41,
         100, 256, 100001, 1000000, 10000000, Integer.MAX_VALUE};
 
+    private static final Method[] OF_CLASS = methods(LadderSurvey.class);
+    private static final Method[] OF_MODEL = methods(Model.class);
+
     private static final Check CHECK = new Check();
     private static long seed = 20261119;
 
-    private LadderSurvey x = new LadderSurvey();
-    private Model model = new Model();
+    private final LadderSurvey x = new LadderSurvey();
+    private final Model model = new Model();
     private final int run;
     private int calls;
     private final int[] a = new int[3];
@@ -191,75 +198,39 @@ public final class ModelTest {
 
     private void ask(int call) {
         calls++;
-        long want = answerOfModel(call);
-        long got = answer(call);
-        CHECK.due(PROMISES[call], "run " + run + ", call " + calls + ", " + NAMES[call] + "(" + a[0] + ", "
-            + a[1] + ", " + a[2] + ")", got, want);
+        long want = answer(model, OF_MODEL[call]);
+        long got = answer(x, OF_CLASS[call]);
+        String run = "run " + this.run + ", call " + calls + ", ";
+        CHECK.due(PROMISES[call], run + NAMES[call] + Arrays.toString(taken(OF_CLASS[call])), got, want);
     }
 
-    private long answer(int call) {
-        switch (NAMES[call]) {
-            case "type": return x.type(a[0]);
-            case "clear": return x.clear();
-            case "ladder": return x.ladder();
-            case "stretch": return x.stretch(a[0], a[1]);
-            case "traveller": return x.traveller(a[0], a[1]);
-            case "wear": return x.wear(a[0], a[1]);
-            case "thing": return x.thing(a[0]);
-            case "now": return x.now(a[0]);
-            case "goes": return x.goes(a[0], a[1]);
-            case "stays": return x.stays(a[0]);
-            case "loses": return x.loses(a[0]);
-            case "picks": return x.picks(a[0]);
-            case "undo": return x.undo();
-            case "altitude": return x.altitude(a[0]);
-            case "step": return x.step(a[0]);
-            case "hands": return x.hands(a[0]);
-            case "sees": return x.sees(a[0], a[1]);
-            case "can": return x.can(a[0]);
-            case "measures": return x.measures(a[0], a[1], a[2]);
-            case "agree": return x.agree(a[0]);
-            case "forget": return x.forget();
-            case "whose": return x.whose(a[0]);
-            case "odds": return x.odds(a[0], a[1], a[2]);
-            case "rate": return x.rate(a[0], a[1]);
-            case "keep": return x.keep(a[0]);
-            case "back": return x.back(a[0]);
-            case "count": return x.count(a[0]);
-            default: return x.trace();
+    private long answer(Object asked, Method method) {
+        try {
+            return ((Number) method.invoke(asked, taken(method))).longValue();
+        } catch (ReflectiveOperationException thrown) {
+            throw new IllegalStateException(method + Arrays.toString(a), thrown);
         }
     }
 
-    private long answerOfModel(int call) {
-        switch (NAMES[call]) {
-            case "type": return model.type(a[0]);
-            case "clear": return model.clear();
-            case "ladder": return model.ladder();
-            case "stretch": return model.stretch(a[0], a[1]);
-            case "traveller": return model.traveller(a[0], a[1]);
-            case "wear": return model.wear(a[0], a[1]);
-            case "thing": return model.thing(a[0]);
-            case "now": return model.now(a[0]);
-            case "goes": return model.goes(a[0], a[1]);
-            case "stays": return model.stays(a[0]);
-            case "loses": return model.loses(a[0]);
-            case "picks": return model.picks(a[0]);
-            case "undo": return model.undo();
-            case "altitude": return model.altitude(a[0]);
-            case "step": return model.step(a[0]);
-            case "hands": return model.hands(a[0]);
-            case "sees": return model.sees(a[0], a[1]);
-            case "can": return model.can(a[0]);
-            case "measures": return model.measures(a[0], a[1], a[2]);
-            case "agree": return model.agree(a[0]);
-            case "forget": return model.forget();
-            case "whose": return model.whose(a[0]);
-            case "odds": return model.odds(a[0], a[1], a[2]);
-            case "rate": return model.rate(a[0], a[1]);
-            case "keep": return model.keep(a[0]);
-            case "back": return model.back(a[0]);
-            case "count": return model.count(a[0]);
-            default: return model.trace();
+    /** As many of the drawn numbers as a call takes. */
+    private Object[] taken(Method method) {
+        Object[] taken = new Object[method.getParameterCount()];
+        for (int i = 0; i < taken.length; i++) {
+            taken[i] = a[i];
         }
+        return taken;
+    }
+
+    private static Method[] methods(Class<?> of) {
+        Method[] methods = new Method[NAMES.length];
+        for (int call = 0; call < NAMES.length; call++) {
+            for (Method method : of.getDeclaredMethods()) {
+                // Private methods of the same name are helpers.
+                if (method.getName().equals(NAMES[call]) && !Modifier.isPrivate(method.getModifiers())) {
+                    methods[call] = method;
+                }
+            }
+        }
+        return methods;
     }
 }

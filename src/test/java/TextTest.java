@@ -13,6 +13,7 @@ public final class TextTest {
         textsThatEndTooEarly();
         aFaultChangesNothing();
         allIsToldAnew();
+        nothingIsLeftOfOlderTexts();
         counts();
         CHECK.end();
     }
@@ -218,6 +219,28 @@ public final class TextTest {
         CHECK.due(4, "ladder() of no letters", x.ladder(), 0);
         CHECK.due(28, "count(0) of no letters", x.count(0), 0);
         CHECK.due(28, "count(1) of no letters", x.count(1), 0);
+    }
+
+    private static void nothingIsLeftOfOlderTexts() {
+        LadderSurvey x = new LadderSurvey();
+        String[] older = {"s9 9 0;s8 8 1;t9;t8;r9;b9;", "s7 7 6;s6 6 5;t7;t6;r8;b8;", "s5 5 5;t5;r7;b7;x"};
+        for (String text : older) {
+            Check.tell(x, text);
+        }
+        CHECK.due(4, "ladder()", Check.tell(x, "s2 3 4;s1 4 2;t1;"), 3);
+        int[][] stretches = {{2, 3, 1, 2}, {1, 4, -1, 3}};
+        for (int s = 0; s < 2; s++) {
+            for (int what = 0; what < 4; what++) {
+                CHECK.due(4, "stretch(" + s + ", " + what + ")", x.stretch(s, what), stretches[s][what]);
+            }
+        }
+        CHECK.due(4, "traveller(0, 0)", x.traveller(0, 0), 1);
+        CHECK.due(4, "now(0)", x.now(0), 3);
+        CHECK.due(4, "altitude(3000)", x.altitude(3000), 11000);
+        int[] counts = {2, 1, 3, 3};
+        for (int what = 0; what < counts.length; what++) {
+            CHECK.due(4, "count(" + what + ") of the fourth text", x.count(what), counts[what]);
+        }
     }
 
     private static void counts() {

@@ -12,6 +12,8 @@ public final class WearTest {
         agreeByMeasuresTurnedRound();
         truly();
         forget();
+        seenAndMeasuredAnew();
+        fewestAskedFirst();
         CHECK.end();
     }
 
@@ -166,5 +168,27 @@ public final class WearTest {
         CHECK.due(22, "traveller(0, 1)", x.traveller(0, 1), 2);
         CHECK.due(22, "sees(1, 1)", x.sees(1, 1), 1);
         CHECK.due(22, "measures(0, 1, 1)", x.measures(0, 1, 1), 1);
+    }
+
+    private static void seenAndMeasuredAnew() {
+        LadderSurvey x = Check.told("s3 5 3;s3 1 3;s1 1 3;t2;t6;");
+        x.sees(5, 20);
+        x.measures(1, 2, 1);
+        x.measures(1, 2, 1);
+        x.forget();
+        x.sees(0, 17);
+        x.measures(0, 1, 1);
+        x.measures(2, 3, 5);
+        dueCan(x, "SEEN anew", 2, 17, LadderSurvey.NONE, LadderSurvey.NONE);
+        CHECK.due(21, "agree(0), MEASURED anew", x.agree(0), 0);
+        CHECK.due(21, "agree(1), MEASURED anew", x.agree(1), 14999 + 995);
+    }
+
+    private static void fewestAskedFirst() {
+        LadderSurvey x = Check.told("s3 5 3;t3;");
+        CHECK.due(19, "can(-2), asked first", x.can(-2), 0);
+        x.sees(0, 4);
+        CHECK.due(19, "can(-2), SEEN since", x.can(-2), 4);
+        CHECK.due(19, "can(0), SEEN since", x.can(0), 4);
     }
 }
