@@ -530,7 +530,10 @@ public final class LadderSurvey {
         }
 
         void push(int number) {
-            insert(size, number);
+            if (!isFull()) {
+                put(size, number);
+                size++;
+            }
         }
 
         void insert(int i, int number) {
@@ -685,26 +688,24 @@ public final class LadderSurvey {
             tokenPlace = place;
             if (place >= letters.size()) {
                 token = END;
-            } else if (isDigit(letters.at(place))) {
-                takeNumber();
-            } else {
-                token = letters.at(place);
-                place++;
+                return;
             }
-        }
-
-        private void takeNumber() {
-            token = NUMBER;
+            token = letters.at(place);
+            if (!isDigit(token)) {
+                place++;
+                return;
+            }
             number = 0;
             while (place < letters.size() && isDigit(letters.at(place))) {
                 // However many digits there are, above 99 one wrong number is as good as another.
                 number = Math.min(MOST_NUMBER + 1, 10 * number + letters.at(place) - '0');
                 place++;
             }
-            boolean zeroAhead = letters.at(tokenPlace) == '0' && place > tokenPlace + 1;
+            boolean zeroAhead = token == '0' && place > tokenPlace + 1;
             if (zeroAhead || number > MOST_NUMBER) {
                 number = -1;
             }
+            token = NUMBER;
         }
 
         private static boolean isDigit(int letter) {
