@@ -125,7 +125,7 @@ public final class LadderSurvey {
         if (side < 0 || side > 1 || !plan.hasThousand(mark)) {
             return BAD;
         }
-        return side == 0 ? scene.left.at(mark) : scene.right.at(mark);
+        return scene.wearOf(side, mark);
     }
 
     public int thing(int i) {
@@ -144,7 +144,7 @@ public final class LadderSurvey {
             case 2:
                 return scene.staying();
             case 3:
-                return scene.left.sum() + scene.right.sum();
+                return scene.allWear();
             case 4:
                 return plan.steepest();
             case 5:
@@ -836,8 +836,9 @@ public final class LadderSurvey {
     private static final class Scene {
         final Row places = new Row(MOST_TRAVELLERS);
         final Row stayed = new Row(MOST_TRAVELLERS);
-        final Row left = new Row(MOST_TOP);
-        final Row right = new Row(MOST_TOP);
+        // Every going is counted, beyond MOST_WEAR too: so undo() finds what was there before.
+        private final Row left = new Row(MOST_TOP);
+        private final Row right = new Row(MOST_TOP);
         final Row things = new Row(MOST_THINGS);
 
         void begin() {
@@ -869,8 +870,20 @@ public final class LadderSurvey {
             Row side = from < to ? left : right;
             int end = Math.max(from, to);
             for (int mark = Math.min(from, to); mark < end; mark++) {
-                side.put(mark, Math.max(0, Math.min(MOST_WEAR, side.at(mark) + by)));
+                side.put(mark, side.at(mark) + by);
             }
+        }
+
+        int wearOf(int side, int mark) {
+            return Math.min(MOST_WEAR, side == 0 ? left.at(mark) : right.at(mark));
+        }
+
+        int allWear() {
+            int all = 0;
+            for (int mark = 0; mark < MOST_TOP; mark++) {
+                all += wearOf(0, mark) + wearOf(1, mark);
+            }
+            return all;
         }
 
         /** Of the things at a MARK the one that lies longest; -1. */

@@ -1,7 +1,38 @@
-/** Counts and prints the answers that are not as due, by the number of the promise they break. */
+import java.io.IOException;
+import java.io.UncheckedIOException;
+import java.nio.file.Files;
+import java.nio.file.Path;
+
+/** Counts and prints the answers that are not as due, by the promise and the sentence they break. */
 final class Check {
+    private static final String DOCUMENT = document();
+
     private int wrong;
     private int asked;
+    private int promise;
+    private String sentence = "";
+
+    /** The document in one line: its sentences go on over the ends of lines. */
+    static String document() {
+        try {
+            return Files.readString(Path.of("../shared/DOC.md")).replaceAll("\\s+", " ");
+        } catch (IOException e) {
+            throw new UncheckedIOException(e);
+        }
+    }
+
+    /** The answers asked from now on by due(call, got, want) hold this sentence of the document. */
+    void holds(int promise, String sentence) {
+        this.promise = promise;
+        this.sentence = sentence;
+        if (!DOCUMENT.contains(sentence)) {
+            fail("the document does not say: " + sentence);
+        }
+    }
+
+    void due(String call, long got, long want) {
+        due(promise, "\"" + sentence + "\": " + call, got, want);
+    }
 
     void due(int promise, String call, long got, long want) {
         asked++;

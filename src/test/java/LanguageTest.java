@@ -17,6 +17,8 @@ public final class LanguageTest {
     private static final String[] BANNED = {"throw", "throws", "try", "catch", "synchronized", "assert",
         "import", "package", "->", "::", "Exact", "System", "Object", "equals", "hashCode", "toString",
         "protected", "native", "volatile", "transient", "@", "\""};
+    // Of the library that rule 4 allows, what the class uses.
+    private static final Set<String> LIBRARY = Set.of("Math.max", "Math.min", "Math.abs", "Integer.bitCount");
     private static final String[] FACE = {"type(int)", "clear()", "ladder()", "stretch(int,int)",
         "traveller(int,int)", "wear(int,int)", "thing(int)", "now(int)", "goes(int,int)", "stays(int)",
         "loses(int)", "picks(int)", "undo()", "altitude(int)", "step(int)", "hands(int)", "sees(int,int)",
@@ -31,6 +33,7 @@ public final class LanguageTest {
         nested(face);
         String source = Files.readString(Path.of("src/main/java/LadderSurvey.java"));
         words(source);
+        library(source);
         lengths(source);
         CHECK.end();
     }
@@ -111,6 +114,13 @@ public final class LanguageTest {
             require(!Pattern.compile(end + Pattern.quote(banned) + end).matcher(code).find(), "banned: " + banned);
         }
         require(source.chars().allMatch(c -> c < 128), "4: signs 1 to 127");
+    }
+
+    private static void library(String source) {
+        Matcher m = Pattern.compile("\\b(Math|Integer|Long|Arrays|List|String|Character)\\.\\w+").matcher(source);
+        while (m.find()) {
+            require(LIBRARY.contains(m.group()), "4: the library: " + m.group());
+        }
     }
 
     private static void lengths(String source) {
